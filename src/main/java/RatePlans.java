@@ -329,11 +329,6 @@ public final class RatePlans {
         private final int[] lying = new int[CHANNELS_MOST];
         private final int[] peak = new int[CHANNELS_MOST];
 
-        private Round() {
-            known = false;
-            done = 0;
-        }
-
         private void play(Net net) {
             begin(net);
             for (int k = 0; k < COUNTS_MOST; k++) {
@@ -497,7 +492,7 @@ public final class RatePlans {
         }
 
         private void addEdge(int source, int target, int rounds) {
-            if (edges < EDGES_MOST) {
+            if (edges < EDGES_MOST && source < PACE_COUNTS_MOST && target < PACE_COUNTS_MOST) {
                 edgeFrom[edges] = source;
                 edgeTo[edges] = target;
                 edgeRounds[edges] = rounds;
@@ -595,10 +590,6 @@ public final class RatePlans {
     /** The room of each stretch of a chain, from the short ones to the whole. */
     private static final class Rooms {
         private final int[][] least = new int[ACTORS_MOST][ACTORS_MOST];
-
-        private Rooms() {
-            least[0][0] = 0;
-        }
 
         private int ofAll(Net net) {
             for (int i = net.actors - 1; i >= 0; i--) {

@@ -437,6 +437,12 @@ public final class PromisesTest {
             x.channel(a, (a + 1) % 8, 1, 1, a < 6 ? 1 : 0);
         }
         paceIs("six tokens on a loop of 65", x, 5, 65, 6);
+        x.graph(5);
+        for (int a = 0; a < 5; a++) {
+            x.time(a, a == 2 ? 2 : 3);
+            x.channel(a, (a + 1) % 5, 1, 1, a == 4 ? 4 : 0);
+        }
+        paceIs("four tokens on a loop of 14, in lowest terms", x, 3, 7, 2);
         x.graph(1);
         x.time(0, 7);
         x.channel(0, 0, 1, 1, 99);
@@ -536,6 +542,14 @@ public final class PromisesTest {
         x.channel(1, 2, 1, 1, 0);
         x.channel(0, 1, 1, 1, 0);
         due("channels in another order", () -> x.room(), -1);
+        x.graph(3);
+        x.channel(0, 1, 1, 1, 0);
+        x.channel(0, 2, 1, 1, 0);
+        due("both from one actor", () -> x.room(), -1);
+        x.graph(3);
+        x.channel(0, 2, 1, 1, 0);
+        x.channel(1, 2, 1, 1, 0);
+        due("both to one actor", () -> x.room(), -1);
         x.graph(1);
         x.channel(0, 0, 1, 1, 0);
         due("a channel to itself", () -> x.room(), -1);
