@@ -11,9 +11,13 @@ import java.util.Map;
  */
 public final class OracleTest {
     private static final int GRAPHS = 4000;
+    private static final int CALLS_MOST = 512;
+    // So that two graphs with all that is asked about them are within the calls of one object.
+    private static final int ORDER_ASKED = 160;
 
     private static long seed = 20261115L;
     private static int wrong = 0;
+    private static int calls = 0;
     private static int paces = 0;
     private static int brokenPaces = 0;
     private static int slowerThanActors = 0;
@@ -293,6 +297,10 @@ public final class OracleTest {
     }
 
     private static void due(String what, Plain p, Call call, String want) {
+        calls++;
+        if (calls > CALLS_MOST) {
+            throw new AssertionError("an object is not used for more than 512 calls");
+        }
         String got;
         try {
             got = String.valueOf(call.ask());
@@ -319,6 +327,7 @@ public final class OracleTest {
             // Half of the graphs begin on an object that has had another one.
             if (g % 2 == 0) {
                 x = new RatePlans();
+                calls = 0;
             }
             Plain p = build(x, g % 5);
             p.solve();
@@ -419,7 +428,8 @@ public final class OracleTest {
             int channel = c;
             due("peak", p, () -> x.peak(channel), p.hasRound() ? p.peak[c] : -1);
         }
-        for (int k = 0; k < p.order.size(); k++) {
+        int step = 1 + p.order.size() / ORDER_ASKED;
+        for (int k = p.order.size() - 1; k >= 0; k -= step) {
             int at = k;
             due("order", p, () -> x.order(at), p.order.get(k));
         }
