@@ -366,6 +366,8 @@ public final class AnswerBoundariesTest {
     private static void orderEndsWhereARoundIsStuck() {
         Runs.run("7: stuck, but for another part", STUCK, "order 0 = 0", "order 1 = 0", "order 2 = 2", "order 3" + NO_SUCH);
         Runs.run("7: stuck at once", "graph 2 = true", "channel 0 1 1 1 0 = 0", "channel 1 0 1 1 0 = 1", "order 0" + NO_SUCH);
+        Runs.run("7: stuck at once, when a round was known", FOUR_HUNDRED, "order 399 = 3", "total 3 = 400",
+            "channel 0 0 1 1 0 = 3", "order 0" + NO_SUCH, "order 399" + NO_SUCH, "total 3 = 0", "left 3 = 343", "peak 0 = 0");
         Runs.run("7: stuck behind 57 of 400", FOUR_HUNDRED, "channel 3 3 9 9 8 = 3", "order 56 = 2", "order 57" + NO_SUCH);
         Runs.run("7: not stuck, with a token more", FOUR_HUNDRED, "channel 3 3 9 9 9 = 3", "order 57 = 3", "order 399 = 3",
             "order 400" + NO_SUCH);
@@ -493,6 +495,11 @@ public final class AnswerBoundariesTest {
             Runs.run("10: a token less than it takes", self + (takes - 1) + " = 0", "pace 1 0" + STATE, "pace 0 0" + STATE);
             Runs.run("10: as many tokens as it takes", self + takes + " = 0", "pace 1 0 = 1", "pace 0 0 = 1");
         }
+        for (int actor = 0; actor < 8; actor += 7) {
+            String self = "channel " + actor + " " + actor + " 1 1 ";
+            Runs.run("10: the first or the last alone is left", "graph 8 = true", self + "1 = 0", "pace 4 0 = 1", self + "0 = 1",
+                "left " + actor + " = 1", "left 4 = 0", "pace 4 0" + STATE, "pace 0 0" + STATE, "pace 7 0" + STATE);
+        }
         // Counts 3 and 2, times 3 and 2: with 4, actor 0 works 0 to 3 to 6, 1 to 8, 0 to 11, 1 to 13.
         String[][] tokensAndPace = {{"3", null}, {"4", "13"}, {"5", "11"}, {"6", "9"}, {"7", "9"}, {"99", "9"}};
         for (String[] row : tokensAndPace) {
@@ -575,9 +582,13 @@ public final class AnswerBoundariesTest {
         Runs.run("10: 41 of 45, and an actor alone", forty(2, 8, 27), "pace 7 0 = 1", "pace 0 0" + ARITHMETIC, "pace 7 1 = 1");
         Runs.run("10: 40, and 41 with an actor that is bound", forty(1, 5, 27), "pace 3 0 = 27", "channel 0 4 1 1 0 = 6",
             "channel 4 0 1 1 1 = 7", "pace 3 0" + ARITHMETIC, "pace 4 0" + ARITHMETIC);
+        Runs.run("10: 40, again and again on one object", forty(1, 8, 27), "pace 0 0 = 27", "time 3 2 = true", "pace 0 0 = 54",
+            "pace 7 0 = 1", "pace 3 0 = 54", "time 3 9 = true", "pace 1 0 = 243", forty(1, 8, 27), "pace 2 0 = 27");
         // Between two of actor 2 there are always three of actor 3: nine times 9 and 27. The others are quicker.
         Runs.run("10: 40, as slow as can be", forty(1, 4, 3), "time 0 9 = true", "time 1 9 = true", "time 2 9 = true",
-            "time 3 9 = true", "pace 0 0 = 324", "pace 3 1 = 1");
+            "time 3 9 = true", "pace 0 0 = 324", "pace 3 1 = 1",
+            // Now one of actor 1 and three of actor 2 with two waits between them are slower: 3 times 9, 27 and 6.
+            "time 3 1 = true", "pace 0 0 = 126", "pace 3 1 = 1");
     }
 
     private static void paceAsksForTheCountsLast() {
