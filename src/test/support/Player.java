@@ -1,3 +1,5 @@
+import java.lang.reflect.Method;
+
 /** One object that is asked by calls written as text, and for no more calls than the document allows. */
 final class Player {
     private static final int CALLS_MOST = 512;
@@ -17,11 +19,22 @@ final class Player {
         for (int i = 0; i < numbers.length; i++) {
             numbers[i] = number(words[i + 1]);
         }
+        checkIsOfFace(words[0], numbers.length);
         try {
             return answer(words[0], numbers);
         } catch (RuntimeException e) {
             return nameOf(e);
         }
+    }
+
+    /** A call with a number too many or too few is a fault of the test, not an answer. */
+    private static void checkIsOfFace(String name, int numbers) {
+        for (Method m : RatePlans.class.getDeclaredMethods()) {
+            if (m.getName().equals(name) && m.getParameterCount() == numbers) {
+                return;
+            }
+        }
+        throw new AssertionError("no such call: " + name + " with " + numbers + " numbers");
     }
 
     private static int number(String word) {
